@@ -69,7 +69,7 @@ public final class JustFivePounds {
     }
 
     public int set(int what, int v) {
-        int was = what < 0 || what > 3 ? BAD : count(what + 1);
+        int was = count(what + 1);
         switch (what) {
             case 0:
                 if (!within(v, 1, MARK_MOST)) return NOT_AS_TOLD;
@@ -121,9 +121,8 @@ public final class JustFivePounds {
     }
 
     public int asks(int part, int notchAfter, int offOver, int more) {
-        if (!within(part, 0, PARTS - 1) || notchAfter < 0 || offOver < 0) return BAD;
         int notch = notchAfter / 10, after = notchAfter % 10, off = offOver / 10, over = offOver % 10;
-        if (!within(notch, 1, 3) || !within(after, 0, LATES - 1)) return BAD;
+        if (!within(part, 0, PARTS - 1) || !within(notch, 1, 3) || !within(after, 0, LATES - 1)) return BAD;
         if (!within(off, 0, OFF_MOST) || !within(over, 0, 1) || !within(more, 0, MORE_MOST)) return BAD;
         return lawText().says(part, notch, after, off, over, more, now.price);
     }

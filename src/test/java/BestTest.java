@@ -42,6 +42,11 @@ public final class BestTest {
         // a NOTCH of 3 is late as often for each a, one of 1 never: the HAND is just only with a 0 alone
         x = one("runs 1+(notch=3)*6; late (notch=3)*9; costs off;", 0, 20, 0, 400);
         due("by what is LIKELY, not by how OFTEN", x.ahead(0, 1), 0);
+        x = one("runs 10*notch+more; late after=1; costs off;", 0, 23, 0, 300);
+        // 33 each till 300 are lacking: 231; then 13 each: 491 lets go at 9, so that 13 more are 4 too many; 478, at 22
+        due("of its own KIND, MORE, CHANGES", x.ahead(0, 0), 9);
+        x.set(0, 504);
+        due("of its own KIND, MORE, CHANGES", x.ahead(0, 1), 13);
         for (int bad : new int[] {-1, 2, FAR[0], FAR[1]}) due("goal " + bad, x.ahead(0, bad), -7);
         for (int bad : new int[] {-1, 1, FAR[0], FAR[1]}) {
             due("hand " + bad, x.ahead(bad, 0), -5);
@@ -130,6 +135,12 @@ public final class BestTest {
         x = one("runs 1; late after=0; costs 400-off;", 0, 0, 0, 0);
         x.set(0, 1500);
         due("2000 tenths at most: 2400 is far off, 900 more", x.next(0), 2400);
+        x = one("runs 1; late after=0; costs not (off=400);", 0, 0, 0, 0);
+        x.set(0, 1500);
+        due("2000 tenths, from 0 on", x.next(0), 2400);
+        x = one("runs 1; late after=1; costs not (off=149);", 0, 20, 0, 500);
+        x.set(0, 1250);
+        due("2000 tenths of two notches, and one late", x.next(0), 2150);
         x = one("runs 1; late after=0; costs 999-off;", 0, 0, 0, 0);
         x.set(3, 1);
         x.set(0, 1);
@@ -177,6 +188,10 @@ public final class BestTest {
         x.set(0, 100);
         // none pressed, 41 LACKING: NOTCH 3 runs 10 too
         on(x, 159, 41 - 59, 1);
+        x = one("runs 10*notch; late after=1; costs off;", 1, 20, 50, 45);
+        x.set(0, 100);
+        // 41 LACKING are not above 45: NOTCH 1, to 169 and a drip
+        on(x, 159, 30 - 59, 1);
         for (int bad : new int[] {-1, 5001, FAR[0], FAR[1]}) due("end " + bad, x.on(0, bad, 0), NO);
         for (int bad : new int[] {-1, 2, FAR[0], FAR[1]}) due("part " + bad, x.on(0, 0, bad), NO);
         for (int bad : new int[] {-1, 1, FAR[0], FAR[1]}) due("hand " + bad, x.on(bad, 0, 0), NO);

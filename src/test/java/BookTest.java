@@ -135,6 +135,10 @@ public final class BookTest {
         x.force(1);
         x.serve(0, 0);
         x.serve(0, 1);
+        x.set(0, 402);
+        due("just", x.serve(4, 1), 402);
+        due("JUST ones", x.book(1), 1);
+        x.set(0, 400);
         int spent = x.book(2);
         due("there is none still", x.back(), -3);
         due("image", x.image(), 2);
@@ -162,7 +166,7 @@ public final class BookTest {
             int[][] told = {{2, 3, 5, 100}, {1, 0, 6, 110}};
             for (int h = 0; h < 2; h++) for (int w = 0; w < 4; w++) due("told", x.told(h, w), told[h][w]);
             due("none such", x.told(2, 0), -5);
-            book(x, 2, 0, spent);
+            book(x, 3, 1, spent);
             x.text();
         }
         due("image", x.image(), 2);

@@ -190,6 +190,23 @@ public final class PumpTest {
         fault("runs ();" + REST, 6);
         fault("runs (1 2);" + REST, 8);
         fault("runs runs;" + REST, 5);
+        fault("runs costs 1;" + REST, 5);
+        fault("runs late 1;" + REST, 5);
+        fault("not 1;", 0);
+        fault("runs 1; not 0;", 8);
+        fault("runs 1; late 0; not 0;", 16);
+        fault("runs offz;" + REST, 5);
+        fault("runs aoff;" + REST, 5);
+        fault("runs pore;" + REST, 5);
+        fault("runs mare;" + REST, 5);
+        fault("runs morf;" + REST, 5);
+        fault("runs 1 or;" + REST, 9);
+        fault("runs 1<;" + REST, 7);
+        fault("runs 1=;" + REST, 7);
+        fault("runs 2*;" + REST, 7);
+        fault("runs 2-;" + REST, 7);
+        fault("runs -;" + REST, 6);
+        fault("runs (1 or);" + REST, 10);
         fault("runs 1 late 0;", 7);
         fault("runs (late);" + REST, 6);
     }
@@ -230,6 +247,17 @@ public final class PumpTest {
             due("text", x.text(), t);
         }
         due("texts", x.count(5), 6);
+        JustFivePounds y = new JustFivePounds();
+        for (int turn = 0; turn < 4; turn++) {
+            Due.feed(y, "runs 1" + "+1".repeat(76) + "x");
+            due("a long fault", y.text(), -258);
+        }
+        Due.feed(y, "runs 1" + "+1".repeat(30) + "; late 2; costs 3;");
+        due("leaves nothing behind", y.text(), 1);
+        y.force(1);
+        due("runs", y.asks(0, 10, 0, 0), 31);
+        due("late", y.asks(1, 10, 0, 0), 2);
+        due("costs", y.asks(2, 10, 0, 0), 3);
         due("FULL, the tape being empty", x.text(), -4);
         Due.feed(x, "runs x;");
         due("FULL ahead of the FAULT", x.text(), -4);

@@ -76,6 +76,7 @@ public final class SlipTest {
         parted(x, 222222222, 511, 501);
         x = one("runs 10; late 0; costs off;", 0, 0, 0);
         parted(x, 1000000000, 501, 501, 501);
+        parted(x, 0, 501, 500, 501);
         due("missing", x.parts(3, 0), NO);
         for (int bad : new int[] {-1, 4, FAR[0], FAR[1]}) due("sheet " + bad, x.parts(bad, 0), NO);
         for (int bad : new int[] {-1, 1, FAR[0], FAR[1]}) due("hand " + bad, x.parts(0, bad), NO);

@@ -63,6 +63,11 @@ public final class StopTest {
             notch("LATE ONE that never changes", x, 3);
             x = one(law, kind, 0, 500);
             tenths("LATE ONE that is slow at once", x, 50, 51, 52, 53, 54);
+            x = one(law, kind, 0, 100);
+            x.set(3, 450);
+            tenths("full behind its CHANGE", x, 17, 18, 19, 20, 21);
+            x.set(3, 410);
+            tenths("full ahead of its CHANGE", x, 14, 15, 16, 17, 18);
         }
         x = one(law, 0, 20, 0);
         ends("20 AHEAD", x, 481, 501, 521, 541, 561);
@@ -133,6 +138,7 @@ public final class StopTest {
         often("none: a 0 is", one(law, 23, 0, 0), 1, 0, 0, 0, 0);
         often("not none", one(law, 24, 0, 0), 0, 1, 1, 1, 1);
         often("not none", one(law, 30, 0, 0), 1, 1, 0, 0, 0);
+        often("one alone, once", one("runs 10; late after=1; costs off;", 0, 0, 0), 0, 1, 0, 0, 0);
         law = "runs 10; late (after=0)*3; costs off;";
         often("a 0 alone", one(law, 0, 0, 0), 3, 0, 0, 0, 0);
         often("a 0 that is never: 1", one(law, 20, 0, 0), 1, 0, 0, 0, 0);
@@ -212,6 +218,13 @@ public final class StopTest {
         chance(x, 0, 1, 5);
         chance(x, 1, 1, 5);
         chance(x, 2, 3, 5);
+        x.train(0, 0, 0);
+        chance(x, 0, 1, 5);
+        chance(x, 1, 4, 5);
+        x.set(1, 1);
+        chance(x, 0, 0, 1);
+        chance(x, 1, 1, 1);
+        chance(x, 2, 0, 1);
         x = one("runs 10; late 2+2*(after=2); costs off;", 0, 20, 0);
         x.set(1, 0);
         chance(x, 0, 1, 3);
@@ -352,6 +365,11 @@ public final class StopTest {
         JustFivePounds x = one(TENS, 0, 0, 0);
         x.set(3, 515);
         due("FULL AT 515", x.spread(0), 14);
+        x = one("runs 10; late after=0; costs off;", 0, 1, 0);
+        x.set(0, 1);
+        x.set(1, 0);
+        due("END 0 alone", x.stops(0, 0, 0), 0);
+        due("END 0 alone", x.spread(0), 0);
         for (int bad : new int[] {-1, 1, FAR[0], FAR[1]}) due("hand " + bad, x.spread(bad), -5);
     }
 
