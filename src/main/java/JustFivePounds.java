@@ -945,9 +945,8 @@ public final class JustFivePounds {
     /** THE TAPE, and the reading of it; a TOKEN that is a sign is told by that sign's byte. */
     private static final class Tape {
         private static final int ENDED = 0, NO_TOKEN = 1;
-        private static final int RUNS_KEY = 3, LATE_KEY = 4, COSTS_KEY = 5;
-        /** The six names are this and so many more. */
-        private static final int FIRST_NAME = 10, LAST_NAME = 15;
+        /** The keys of the parts and the six names are these and so many more. */
+        private static final int FIRST_KEY = 3, FIRST_NAME = 10, LAST_NAME = 15;
         private static final int OPEN_MOST = 5, DIGITS_MOST = 4;
 
         private final int[] bytes = new int[TAPE_MOST];
@@ -970,20 +969,14 @@ public final class JustFivePounds {
             text.empty();
             place = 0;
             readToken();
-            boolean stands = readPart(text, RUNS, RUNS_KEY)
-                    && readPart(text, LATE, LATE_KEY)
-                    && readPart(text, COSTS, COSTS_KEY)
-                    && token == ENDED;
-            return stands ? NONE : tokenPlace;
-        }
-
-        private boolean readPart(Text text, int part, int key) {
-            if (token != key) return false;
-            readToken();
-            if (!readOr(text, 0) || token != ';') return false;
-            text.endPart(part);
-            readToken();
-            return true;
+            for (int part = 0; part < PARTS; part++) {
+                if (token != FIRST_KEY + part) return tokenPlace;
+                readToken();
+                if (!readOr(text, 0) || token != ';') return tokenPlace;
+                text.endPart(part);
+                readToken();
+            }
+            return token == ENDED ? NONE : tokenPlace;
         }
 
         // Each of these reads what its name says and answers false at a TOKEN that can't stand there;
@@ -1084,9 +1077,9 @@ public final class JustFivePounds {
 
         private void readWord() {
             for (int i = 0; i < TAPE_MOST && isLetter(byteAt(place)); i++) place++;
-            if (isWord("runs")) token = RUNS_KEY;
-            else if (isWord("late")) token = LATE_KEY;
-            else if (isWord("costs")) token = COSTS_KEY;
+            if (isWord("runs")) token = FIRST_KEY + RUNS;
+            else if (isWord("late")) token = FIRST_KEY + LATE;
+            else if (isWord("costs")) token = FIRST_KEY + COSTS;
             else if (isWord("not")) token = Text.NOT;
             else if (isWord("and")) token = Text.AND;
             else if (isWord("or")) token = Text.OR;
