@@ -143,6 +143,9 @@ public final class BookTest {
         due("there is none still", x.back(), -3);
         due("image", x.image(), 2);
         for (int turn = 0; turn < 2; turn++) {
+            x.set(0, 402);
+            due("another just one", x.serve(4, 1), 402);
+            due("JUST ones", x.book(1), 2);
             x.set(0, 401);
             x.set(1, 3);
             x.set(2, 51);
