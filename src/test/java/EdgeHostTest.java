@@ -202,6 +202,9 @@ public final class EdgeHostTest {
         due("three have room, of five", x.handsBy(1, 0, 25, 5), 3);
         due("none has room", x.handsBy(1, 0, 0, 5), 0);
         due("HANDS", x.count(0), 5);
+        JustFivePounds none = new JustFivePounds();
+        Due.row(none, 0, 2, 0, 0, 0, 0, 0, 0);
+        due("two, the first being number 0", none.handsBy(0, 2, 0, 2), 2);
         Edge.of(41, "-12: what stood ahead came.");
         JustFivePounds y = exact();
         Due.row(y, 0, 2, 11, 1, 1, 22, 2, 2, 33, 3);

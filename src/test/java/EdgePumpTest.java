@@ -138,6 +138,15 @@ public final class EdgePumpTest {
         Due.feed(x, "runs 2;" + REST);
         due("nothing of it stays", x.text(), 2);
         due("THE LAW is as it was", x.count(6), 0);
+        for (int turn = 0; turn < 4; turn++) {
+            Due.feed(x, "runs 1" + "+1".repeat(76) + "?");
+            due("a FAULT behind all", x.text(), -258);
+        }
+        Due.feed(x, "runs 1" + "+1".repeat(30) + ";late 2;costs 3;");
+        due("nothing of them stays", x.text(), 3);
+        x.force(3);
+        int[] says = {31, 2, 3};
+        for (int part = 0; part < 3; part++) due("nothing of them stays", x.asks(part, 10, 0, 0), says[part]);
     }
 
     private static void textsAreSixAtMost() {
@@ -208,6 +217,14 @@ public final class EdgePumpTest {
         fault("runs 1 ) 12345", 7);
         fault("runs * 9999 (", 5);
         fault("runs (1 or) 2;" + REST, 10);
+        for (String lacks : new String[] {"", "1 or", "1 and", "not", "1<", "1=", "1+", "1-", "1*", "-", "()", "(1+)", "(1 or)", "(not)"}) {
+            fault("runs " + lacks + ";" + REST, 5 + lacks.length() - (lacks.endsWith(")") ? 1 : 0));
+        }
+        for (String no : new String[] {"1", "notch", "not", "and", "late", "costs", "(", "-", "<", ";"}) {
+            fault(no + " 1;" + REST, 0);
+            if (!no.equals("late")) fault("runs 1;" + no + " 0;costs 0;", 7);
+            if (!no.equals("costs")) fault("runs 1;late 0;" + no + " 0;", 14);
+        }
         fault(";", 0);
         fault("late 1;runs 1;costs 0;", 0);
         fault("runs 1;" + REST + "runs 1;", 22);
@@ -239,7 +256,8 @@ public final class EdgePumpTest {
     private static void aWordMayBeNone() {
         Edge.of(5, "FAULT", "a WORD that is neither KEY nor NAME");
         for (String no : new String[] {"notc", "notches", "afte", "afters", "of", "offs", "ove", "overs", "mor", "mores", "pric",
-            "prices", "no", "nott", "a", "z", "x", "mark", "sum"}) {
+            "prices", "no", "nott", "a", "z", "x", "mark", "sum", "offz", "zoff", "offa", "aoff", "pore", "mare",
+            "morf", "xff", "runs", "late", "costs", "and", "or"}) {
             fault("runs " + no + ";" + REST, 5);
         }
         for (String no : new String[] {"an", "ands", "o", "ors", "nor", "b"}) fault("runs 1 " + no + " 1;" + REST, 7);
@@ -318,6 +336,15 @@ public final class EdgePumpTest {
             for (int bad : Edge.beside(0, 9)) due("MORE " + bad, x.asks(part, 10, 0, bad), -2);
         }
         for (int bad : Edge.beside(0, 2)) due("part " + bad, x.asks(bad, 10, 0, 0), -2);
+        Edge.of(7, "TEXTS", "price: PRICE");
+        JustFivePounds y = Due.by("runs price;late price;costs price;");
+        int[] prices = {1, 9, 10, 50, 51, 99};
+        for (int price : prices) {
+            y.set(2, price);
+            due("runs", y.asks(0, 10, 0, 0), Math.min(50, price));
+            due("late", y.asks(1, 10, 0, 0), Math.min(9, price));
+            due("costs", y.asks(2, 10, 0, 0), price);
+        }
         due("off 999", Due.by("runs 1;late 0;costs off;").asks(2, 10, 9990, 0), 999);
         due("off 999, over 1", Due.by("runs 1;late 0;costs 1000*over-off;").asks(2, 10, 9991, 0), 1);
     }

@@ -185,6 +185,9 @@ public final class EdgeSlipTest {
     private static void ruleTellsTheFirst() {
         Edge.of(29, "of like ones the first (what 0), that (1)");
         JustFivePounds x = one(FALLING, 0, 0);
+        Due.row(x, 0, 2, 500, 500, 500);
+        due("of two TEXTS", x.rule(0, 0, 0), 1);
+        due("of two TEXTS", x.rule(0, 0, 1), 64000000);
         text(x, "runs 10;late after;costs off;");
         text(x, FALLING);
         text(x, "runs 10;late 4*(after=4);costs off;");
@@ -435,7 +438,7 @@ public final class EdgeSlipTest {
         int[] counts = new int[8], books = {x.book(0), x.book(1), x.book(2)};
         for (int what = 0; what < 8; what++) counts[what] = x.count(what);
         x.image();
-        x.set(0, 1);
+        x.set(0, 3);
         x.set(1, 9);
         x.set(2, 1);
         x.set(3, 1);
@@ -443,6 +446,8 @@ public final class EdgeSlipTest {
         x.train(0, 1, 500);
         x.force(0);
         x.serve(1, 0);
+        x.set(0, 1);
+        due("a just one", x.serve(1, 0), 1);
         text(x, "runs 3;late 3;costs 3;");
         x.feed(3, 'x', 'x', 'x', 'x', 'x');
         Due.row(x, 2, 2, 500);

@@ -130,6 +130,15 @@ public final class EdgeStopTest {
         }
         tenths("2000 tenths", one(ONES, 2000, 0, 0, 0), 2000, 2001, 2002, 2003, 2004);
         tenths("1999 tenths", one(ONES, 2000, 0, 1, 0), 1999);
+        JustFivePounds late = one("runs 10*notch;late 1;costs off;", 500, 20, 0, 100);
+        // 420 by 14 thirties, then tens
+        int[] fulls = {390, 391, 420, 421, 430, 431}, presses = {13, 14, 14, 15, 15, 16};
+        for (int i = 0; i < fulls.length; i++) {
+            late.set(3, fulls[i]);
+            tenths("FULL AT " + fulls[i] + " of two NOTCHES", late, presses[i]);
+        }
+        // towards 2150 by NOTCH 3 till 500 are LACKING, then by NOTCH 1 to 2000, for the tenths
+        due("2000 tenths of two NOTCHES", one("runs 1;late after=0;costs not off=150;", 1250, 20, 0, 500).next(0), 2150);
         // towards 2400 it lets go at 2000, for the tenths: that mark alone is 400 off
         due("2000 tenths towards 2400", one("runs 1;late after=0;costs not off=400;", 1500, 0, 0, 0).next(0), 2400);
         due("2000 tenths, and one late", one("runs 1;late after=1;costs not off=399;", 1500, 0, 0, 0).next(0), 2400);
@@ -171,9 +180,15 @@ public final class EdgeStopTest {
         x.train(0, 0, 59);
         x.train(0, 1, 59);
         due("pressed at 60, let go at 30 LACKING", x.stops(0, 0, 3), 3);
-        x.set(3, 1);
-        x.set(0, 500);
-        due("full at once, pressed at 500", x.stops(0, 0, 3), 3);
+        x.set(3, 20);
+        x.train(0, 0, 10);
+        due("pressed at 60, full at 40 LACKING", x.stops(0, 0, 3), 3);
+        x.set(3, 5000);
+        x = one("runs 10*notch;late after=1;costs off;", 100, 20, 50, 45);
+        // from 159 towards 200 none is pressed: 41 LACKING, so it is NOTCH 1, to 169
+        Edge.dueBoth("on(0, 159)", x.on(0, 159, 0), x.on(0, 159, 1), 31 - 59, 1);
+        // 2000 tenths towards 2400, the last at 401 LACKING, by NOTCH 3; late by it, to 2001
+        due("next", one("runs 1+4*(notch=1);late after=1;costs not off=399;", 1500, 20, 0, 400).next(0), 2400);
     }
 
     private static void touchesEnd() {
@@ -267,6 +282,11 @@ public final class EdgeStopTest {
         chance(x, 0, 1, 5);
         chance(x, 1, 3, 5);
         chance(x, 2, 1, 5);
+        x.set(1, 2);
+        chance(x, 0, 0, 1);
+        chance(x, 1, 1, 1);
+        chance(x, 2, 0, 1);
+        x.set(1, 0);
         x.set(3, 2);
         chance(x, 0, 4, 5);
         chance(x, 1, 0, 1);
@@ -358,6 +378,12 @@ public final class EdgeStopTest {
         x.set(1, 1);
         for (int goal = 0; goal < 2; goal++) due("99 is asked, goal " + goal, x.ahead(0, goal), 99);
         due("it LETS go as it did", x.told(0, 2), 50);
+        // 440 by forties till 60 are LACKING, then by fours, and one late
+        x = one("runs 4+36*(notch=3);late after=1;costs off;", 500, 23, 50, 60);
+        for (int goal = 0; goal < 2; goal++) due("its KIND, CHANGES stay", x.ahead(0, goal), 4);
+        // 5 and MORE a tenth: eights
+        x = one("runs 5+more;late after=1;costs off;", 496, 3, 50, 0);
+        for (int goal = 0; goal < 2; goal++) due("its MORE stays", x.ahead(0, goal), 8);
         Edge.of(16, "of like ones the least");
         due("all are like, by COST", one("runs 1;late 1;costs 5;", 500, 0, 50, 0).ahead(0, 0), 0);
         x = one(TENS, 501, 0, 50, 0);
@@ -550,6 +576,10 @@ public final class EdgeStopTest {
         }
         due("a 0 of a LATE ONE is never", one(TENS, 500, 20, 0, 0).spread(0), 30);
         due("none: a 0 alone", one("runs 10;late 0;costs off;", 500, 0, 0, 0).spread(0), 0);
+        due("END 0 alone", one(SURE_TENS, 99, 0, 99, 0).spread(0), 0);
+        JustFivePounds full = one("runs 50;late after=0;costs off;", 2000, 0, 0, 0);
+        full.set(3, 1);
+        due("END 1 alone", full.spread(0), 0);
         Edge.of(23, "-5: no such HAND.");
         for (int bad : Edge.beside(0, 0)) due("HAND " + bad, one(TENS, 500, 0, 0, 0).spread(bad), -5);
     }
