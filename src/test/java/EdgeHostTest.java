@@ -108,6 +108,18 @@ public final class EdgeHostTest {
         holds(x, 0, 1, 127, 128, 255, 256, 257, 383, 384, -1, -1, -1, -1, 0, 1, -1, 1000, 0, -1, 5);
         Due.row(x, 0, 2, numbers);
         holds(x, 0, 2, 127, 128, 255, 256, 257, 383, 384, -1, -1, -1, -1, -1, -1, -1, -1, -1, -1, -1);
+        JustFivePounds far = Due.by("runs 50;late after=0;costs 0;");
+        far.set(1, 0);
+        far.set(0, 200);
+        far.hand(0, 0, 0);
+        due("END", far.stops(0, 0, 0), 200);
+        for (int sort = 0; sort < 3; sort++) {
+            Due.row(far, 0, sort, 200);
+            // the lowest 8 bits of 200 are -56 in a row of bytes
+            due("200 in a row of sort " + sort, far.judge(0, 0), sort == 0 ? 0 : -1);
+            Due.row(far, 0, sort, 65536 + 200);
+            due("65736 in a row of sort " + sort, far.judge(0, 0), sort == 1 ? -1 : 0);
+        }
         Edge.of(39, "BAD: SHEET; -11; -12.");
         for (int bad : Edge.beside(0, 3)) {
             due("SHEET " + bad, x.cell(bad, 0, 0), -2);
@@ -193,6 +205,7 @@ public final class EdgeHostTest {
         JustFivePounds x = exact();
         Due.row(x, 0, 2, 59, 99, 500, 60, 0, 0, 0, 100, 0, 0, 0, 501, -1, 0, 0);
         due("none of none", x.handsBy(0, 2, 0, 0), 0);
+        for (int at : Edge.beside(0, 17)) due("none, wherever: " + at, x.handsBy(0, 2, at, 0), 0);
         due("one of five", x.handsBy(0, 2, 0, 5), 1);
         due("none of the others", x.handsBy(0, 2, 3, 4), 0);
         due("HANDS", x.count(0), 2);
